@@ -1,0 +1,42 @@
+/** Counts checks and prints each answer that is not the one that is due. */
+final class Due {
+    private final String test;
+    private int checks;
+    private int wrong;
+
+    Due(String test) {
+        this.test = test;
+    }
+
+    void is(String call, long got, long want) {
+        checks++;
+        if (got != want) {
+            wrong++;
+            System.out.println(test + ": " + call + " answered " + got + ", due is " + want);
+        }
+    }
+
+    /** Prints how it went; ends with exit code 1 if an answer was wrong. */
+    void end() {
+        System.out.println(test + ": " + checks + " checks, " + wrong + " wrong");
+        if (wrong != 0) {
+            System.exit(1);
+        }
+    }
+
+    /** Feeds a text byte by byte and reads it. */
+    static int text(StonesChoose x, String text) {
+        for (int i = 0; i < text.length(); i++) {
+            x.feed(1, text.charAt(i), 0, 0, 0, 0);
+        }
+        return x.text();
+    }
+
+    /** Makes a sheet of a sort that holds these numbers. */
+    static void row(StonesChoose x, int s, int sort, int... numbers) {
+        x.sheet(s, sort, numbers.length);
+        for (int i = 0; i < numbers.length; i++) {
+            x.cell(s, i, numbers[i]);
+        }
+    }
+}
