@@ -165,9 +165,6 @@ public final class StonesChoose {
         if (where < 0 || where >= PLACES || heavy < 0 || heavy >= WEIGHTS) {
             return BAD;
         }
-        if (now.choice.stones >= STONES) {
-            return FULL;
-        }
         return now.add(kindMore, where, heavy);
     }
 
@@ -229,7 +226,7 @@ public final class StonesChoose {
             return BAD;
         }
         boolean ofAll = what == 0 || what == 1;
-        if (!ofAll && (what < 10 || !isStone(what - 10))) {
+        if (!ofAll && !isStone(what - 10)) {
             return BAD;
         }
         thought.copyFrom(now);
@@ -573,8 +570,8 @@ public final class StonesChoose {
         if (from.sort != to.sort) {
             return UNLIKE;
         }
-        // no sum here, which could wrap
-        if (n < 0 || i < 0 || j < 0 || n > from.size || n > to.size || i > from.size - n || j > to.size - n) {
+        // a sum of i and n could wrap
+        if (n < 0 || i < 0 || j < 0 || i > from.size - n || j > to.size - n) {
             return OUTSIDE;
         }
         System.arraycopy(from.cells, i, to.cells, j, n);
@@ -594,8 +591,7 @@ public final class StonesChoose {
         }
         int came = 0;
         for (int k = 0; k < n; k++) {
-            // from is looked at first: only within the sheet the sum can't wrap
-            if (from < 0 || from >= row.size || from + 3 * k + 2 >= row.size) {
+            if (from < 0 || from > row.size - 3 * k - 3) {
                 return OUTSIDE;
             }
             int i = from + 3 * k;
@@ -748,7 +744,7 @@ public final class StonesChoose {
             law = other.law;
         }
 
-        /** One more stone, if there is room for it: its number. */
+        /** One more stone: its number; FULL: there are as many as there can be. */
         int add(int kindMore, int where, int heavy) {
             int p = choice.stones;
             if (p >= STONES) {
@@ -849,7 +845,8 @@ public final class StonesChoose {
         int passYear() {
             int bits = 0;
             for (int p = 0; p < choice.stones; p++) {
-                if (choice.in[p] == NONE && goIn(p)) {
+                int b = choice.in[p] == NONE ? wish(p) : NONE;
+                if (b != NONE && goTo(p, b)) {
                     bits |= 1 << p;
                 }
             }
@@ -857,12 +854,8 @@ public final class StonesChoose {
             return bits;
         }
 
-        /** What a stone that is in none does in a year: whether it comes to be in a building. */
-        private boolean goIn(int p) {
-            int b = wish(p);
-            if (b == NONE) {
-                return false;
-            }
+        /** A stone goes towards its wish: whether it comes to be in it. */
+        private boolean goTo(int p, int b) {
             int step = goes(p);
             int way = place[b] - at[p];
             at[p] += Math.max(-step, Math.min(step, way));
@@ -900,7 +893,6 @@ public final class StonesChoose {
             for (int b = 0; b < BUILDINGS; b++) {
                 room[b] = 1;
             }
-            emptyAll();
         }
 
         void copyFrom(Choice other) {
@@ -1054,7 +1046,7 @@ public final class StonesChoose {
                     return 10 * p + 9;
                 }
                 for (int b = 0; b < BUILDINGS; b++) {
-                    if (b != in[p] && ratherBeIn(p, b, in[p]) && takes(p, b)) {
+                    if (ratherBeIn(p, b, in[p]) && takes(p, b)) {
                         return 10 * p + b;
                     }
                 }

@@ -7,6 +7,7 @@ public final class BestTest {
         annexFull();
         cart();
         cartOfLateOnes();
+        cartToTheEnds();
         cartRefuses();
         share();
         DUE.end();
@@ -118,6 +119,21 @@ public final class BestTest {
         z.stone(0, 50, 0);
         DUE.is("21 all wait, the first by 9", z.cart(0, 0), 4);
         DUE.is("21 behind four", z.cart(0, 1), 4);
+    }
+
+    private static void cartToTheEnds() {
+        StonesChoose x = new StonesChoose();
+        Due.text(x, "likes far = 60 ; wants 0 ; goes 99 ;");
+        Due.text(x, "likes far = 59 ; wants 0 ; goes 99 ;");
+        x.stone(0, 50, 0);
+        for (int b = 0; b < 5; b++) {
+            x.build(b, 0, 40);
+        }
+        x.force(1);
+        DUE.is("21 place 100 is none", x.cart(0, 0), -1);
+        x.force(2);
+        DUE.is("21 place 99 is one", x.cart(0, 0), 99);
+        DUE.is("21 behind one", x.cart(0, 1), 1);
     }
 
     private static void cartRefuses() {

@@ -14,7 +14,9 @@ public final class LawTest {
         faultsOfOrder();
         faultsOfTokens();
         faultsOfEnds();
+        faultsOfEachToken();
         depth();
+        longTexts();
         waits();
         force();
         asks();
@@ -237,6 +239,45 @@ public final class LawTest {
         DUE.is("7 too early", fault("likes 1 +"), 9);
         DUE.is("7 too early", fault("likes (1"), 8);
         DUE.is("7 too early", fault("likes not"), 9);
+    }
+
+    /** At each token of a text any other that can't stand there is the fault. */
+    private static void faultsOfEachToken() {
+        String[] text = {"likes", "far", ";", "wants", "7", ";", "goes", "(", "more", ")", ";"};
+        String[] none = {"", "", "or and + - * < =", "", "", "or and + - * < =", "", "", "or and + - * < =",
+            "or and + - * < =", "or and + - * < ="};
+        String others = "likes wants goes or and not far vain built weight year more 7 8888 10000 ( ) ; + - * < = / nott";
+        String ones = "not far vain built weight year more 7 8888 ( -";
+        StringBuilder ahead = new StringBuilder();
+        for (int i = 0; i <= text.length; i++) {
+            boolean isOne = i < text.length && "far 7 ( more".contains(text[i]);
+            for (String other : others.split(" ")) {
+                boolean stands = i < text.length && other.equals(text[i])
+                    || (i < text.length && (" " + none[i] + " ").contains(" " + other + " "))
+                    || isOne && (" " + ones + " ").contains(" " + other + " ");
+                if (!stands) {
+                    DUE.is("7 " + other + " behind " + ahead, fault(ahead + other + " ; far"), ahead.length());
+                }
+            }
+            ahead.append(i < text.length ? text[i] + " " : "");
+        }
+    }
+
+    /** Texts that fill the tape, as many as there can be, each with as many tokens as can be. */
+    private static void longTexts() {
+        StonesChoose x = new StonesChoose();
+        x.stone(0, 0, 0);
+        for (int t = 1; t < 6; t++) {
+            String text = "likes" + t + "+0".repeat(68) + ";wants" + t + t + ";goes3" + t + ";  ";
+            DUE.is("7 the tape is full", text.length(), 160);
+            DUE.is("7 a long text", Due.text(x, text), t);
+        }
+        for (int t = 1; t < 6; t++) {
+            x.force(t);
+            DUE.is("7 a long text says", x.asks(0, 0, 0), t);
+            DUE.is("7 a long text says", x.asks(1, 0, 0), 11 * t);
+            DUE.is("7 a long text says", x.asks(2, 0, 0), 30 + t);
+        }
     }
 
     private static void depth() {

@@ -236,6 +236,12 @@ public final class PeaceTest {
         DUE.is("19 room for all", x.all(0), 1);
         DUE.is("19 room for all", x.all(3), 11111);
         DUE.is("19 room for all", x.all(4), 495);
+        for (int p = 0; p < 5; p++) {
+            x.put(p, 0, 80);
+        }
+        DUE.is("19 the last of all ways", x.all(3), 55555);
+        DUE.is("19 the last of all ways", x.all(1), 55555);
+        DUE.is("19 the last of all ways", x.all(2), 495);
     }
 
     private static void rooms() {
