@@ -24,10 +24,15 @@ final class Due {
         }
     }
 
-    /** Feeds a text byte by byte and reads it. */
+    /** Feeds a text, five bytes a call, so that an object's 512 calls are not spent by it, and reads it. */
     static int text(StonesChoose x, String text) {
-        for (int i = 0; i < text.length(); i++) {
-            x.feed(1, text.charAt(i), 0, 0, 0, 0);
+        for (int i = 0; i < text.length(); i += 5) {
+            int[] v = new int[5];
+            int n = Math.min(5, text.length() - i);
+            for (int k = 0; k < n; k++) {
+                v[k] = text.charAt(i + k);
+            }
+            x.feed(n, v[0], v[1], v[2], v[3], v[4]);
         }
         return x.text();
     }

@@ -28,9 +28,11 @@ public final class EdgesTest {
         toldNothingAndTwenty();
         statesAtTheEnds();
         numbersThatNoStoneHas();
+        imageKeepsAllOfAll();
         lots();
         oneSeedAndForty();
         rowsOfForty();
+        rowsAreAllZero();
         stonesByFives();
         DUE.end();
     }
@@ -500,6 +502,51 @@ public final class EdgesTest {
         }
     }
 
+    /** "AN IMAGE keeps all of BUILDINGS, AT, WEIGHT, IN of all STONES": of all five, and so does a thought. */
+    private static void imageKeepsAllOfAll() {
+        StonesChoose x = new StonesChoose();
+        for (int i = 0; i < 5; i++) {
+            x.build(i, 0, 90 - 7 * i);
+            x.build(i, 1, 1 + i);
+            x.build(i, 2, 11 + i);
+            x.build(i, 3, 21 + i);
+            x.stone(11 * i, 90 - 7 * i, 41 + i);
+        }
+        DUE.is("14 all come in", x.year(), 31);
+        int[] in = new int[5];
+        int[] at = new int[5];
+        int[] built = new int[5];
+        for (int i = 0; i < 5; i++) {
+            in[i] = x.told(i, 2);
+            at[i] = x.told(i, 0);
+            built[i] = x.site(i, 3);
+        }
+        DUE.is("31 all five", x.image(), 5);
+        for (int i = 0; i < 5; i++) {
+            x.put(i, 0, 3);
+            x.put(i, 1, 3);
+            x.build(i, 0, 3);
+            x.build(i, 1, 0);
+            x.build(i, 2, 3);
+            x.build(i, 3, 3);
+        }
+        x.year();
+        DUE.is("32 all five", x.back(), 5);
+        DUE.is("15 and so in thought", x.run(0, 1), 0);
+        for (int i = 0; i < 5; i++) {
+            DUE.is("32 IN of " + i, x.told(i, 2), in[i]);
+            DUE.is("32 AT of " + i, x.told(i, 0), at[i]);
+            DUE.is("15 AT of " + i, x.run(0, 10 + i), at[i]);
+            DUE.is("32 WEIGHT of " + i, x.told(i, 1), 41 + i);
+            DUE.is("32 KIND of " + i, x.told(i, 3), i);
+            DUE.is("32 MORE of " + i, x.told(i, 4), i);
+            DUE.is("32 PLACE of " + i, x.site(i, 0), 90 - 7 * i);
+            DUE.is("32 ROOM of " + i, x.site(i, 1), 1 + i);
+            DUE.is("32 VAIN of " + i, x.site(i, 2), 11 + i);
+            DUE.is("32 BUILT of " + i, x.site(i, 3), built[i]);
+        }
+    }
+
     /** "the first is (SEED and 1) times 48271"; "STONE LOT modulo 5, if there is one": by hand, for one stone from 99. */
     private static void lots() {
         StonesChoose x = new StonesChoose();
@@ -578,6 +625,25 @@ public final class EdgesTest {
         x.sheet(0, 0, 40);
         DUE.is("33 it is of another sort", x.copy(0, 0, 1, 0, 0), -13);
         DUE.is("33 and of 40", x.cell(0, 39, 1), 1);
+    }
+
+    /** "A SHEET becomes a row of n of a sort, all 0": whatever stood in it. */
+    private static void rowsAreAllZero() {
+        for (int sort = 0; sort < 3; sort++) {
+            StonesChoose x = new StonesChoose();
+            x.stone(0, 0, 5);
+            x.sheet(0, 2 - sort, 40);
+            for (int i = 0; i < 40; i++) {
+                x.cell(0, i, 50 + i);
+            }
+            x.sheet(0, -1, 0);
+            DUE.is("33 a row of 40", x.sheet(0, sort, 40), 1);
+            x.sheet(1, sort, 20);
+            DUE.is("33 the first twenty", x.copy(0, 0, 1, 0, 20), 20);
+            DUE.is("33 they are all 0", x.judge(1, 0), -1);
+            DUE.is("33 the other twenty", x.copy(0, 20, 1, 0, 20), 20);
+            DUE.is("33 they are all 0", x.judge(1, 0), -1);
+        }
     }
 
     /** "n of them (0 .. 5) .. others are left out". */

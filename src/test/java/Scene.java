@@ -42,10 +42,8 @@ final class Scene {
         if (stones == 0) {
             return x;
         }
-        feed(x, "likes 99-far+vain;wants weight-far;goes 7;");
-        x.text();
-        feed(x, "likes 0;wants 0;goes 0;");
-        x.text();
+        Due.text(x, "likes 99-far+vain;wants weight-far;goes 7;");
+        Due.text(x, "likes 0;wants 0;goes 0;");
         x.build(1, 1, 3);
         x.build(2, 2, 9);
         x.stone(7, 20, 30);
@@ -62,8 +60,7 @@ final class Scene {
             x.stone(48, 5, 44);
             x.stone(51, 60, 1);
             for (int t = 3; t < 6; t++) {
-                feed(x, "likes " + t + ";wants 0;goes 1;");
-                x.text();
+                Due.text(x, "likes " + t + ";wants 0;goes 1;");
             }
             x.dawn(999);
         }
@@ -81,17 +78,6 @@ final class Scene {
         Due.row(x, 1, 1, 5, 60, 40, 13, 99);
         x.sheet(3, 0, 21);
         x.cell(3, 20, 44);
-    }
-
-    private static void feed(StonesChoose x, String text) {
-        for (int i = 0; i < text.length(); i += 5) {
-            int[] v = new int[5];
-            int n = Math.min(5, text.length() - i);
-            for (int k = 0; k < n; k++) {
-                v[k] = text.charAt(i + k);
-            }
-            x.feed(n, v[0], v[1], v[2], v[3], v[4]);
-        }
     }
 
     /** All that can be seen of an object; it is spent by that. */

@@ -9,6 +9,7 @@ public final class YearsTest {
         liesThere();
         notTaken();
         toldAsItIsThen();
+        asTheBuildingIs();
         built();
         lastYear();
         run();
@@ -151,6 +152,27 @@ public final class YearsTest {
         z.stone(0, 20, 3);
         DUE.is("14 wanted by what is built then", z.year(), 3);
         DUE.is("14 wanted by what is built then", z.site(1, 4), 2);
+    }
+
+    /** Liked and wanted by what that building is, truly and in thought: each is tried as the only one of its kind. */
+    private static void asTheBuildingIs() {
+        String[] laws = {"likes vain ; wants weight * (vain = 7) ; goes 99 ;",
+            "likes built * (built < 9) ; wants weight * built ; goes 99 ;"};
+        for (int b = 0; b < 5; b++) {
+            for (int i = 0; i < 2; i++) {
+                StonesChoose x = new StonesChoose();
+                Due.text(x, laws[i]);
+                x.force(1);
+                x.build(b, 2 + i, 7);
+                x.stone(0, 50, 5);
+                x.stone(0, 50, 6);
+                DUE.is("15 the second, by building " + b, x.run(1, 0), b + 1);
+                DUE.is("18 the second, by building " + b, x.court(0), b + 1);
+                DUE.is("14 the second casts out the first", x.year(), 3);
+                DUE.is("14 it is in", x.site(b, 4), 2);
+                DUE.is("14 built twice", x.site(b, 3), i == 0 ? 2 : 9);
+            }
+        }
     }
 
     private static void built() {
