@@ -17,6 +17,12 @@ public final class StonesChoose {
     private static final int STONE = 0, LINTEL = 1, SLAB = 2, STEP = 3, CONVERT = 4, WHITE = 5;
     private static final int KINDS = 6, MORES = 10, A_BUILDING = 6;
 
+    /**
+     * No building, and no stone, as the rows have them: a place more in each, that holds 0. So what may be none is
+     * an index, too; by -1 Java 17's compiler has read ahead of the test that kept it out, and fallen (HotTest).
+     */
+    private static final int NOWHERE = BUILDINGS, NOBODY = STONES;
+
     private static final int LIKES = 0, WANTS = 1, GOES = 2, PARTS = 3;
     private static final int FAR = 0, VAIN = 1, BUILT = 2, WEIGHT = 3, YEAR = 4, MORE = 5, NAMES = 6;
     private static final String FIRST_LAW = "likes 99 - far ; wants weight ; goes 9 ;";
@@ -155,7 +161,7 @@ public final class StonesChoose {
         if (part < 0 || part >= PARTS || !isStone(p) || b != NONE && !isBuilding(b)) {
             return NO_SUCH_ASKED;
         }
-        return now.says(part, p, b);
+        return now.says(part, p, b == NONE ? NOWHERE : b);
     }
 
     public int stone(int kindMore, int where, int heavy) {
@@ -192,10 +198,10 @@ public final class StonesChoose {
         switch (what) {
             case 0: return now.at[p];
             case 1: return now.weight[p];
-            case 2: return now.choice.in[p];
+            case 2: return orNone(now.choice.in[p]);
             case 3: return now.kind[p];
             case 4: return now.more[p];
-            case 5: return now.wish(p);
+            case 5: return orNone(now.wish(p));
             case 6: return now.goes(p);
             default: return NOT_AS_TOLD;
         }
@@ -358,7 +364,7 @@ public final class StonesChoose {
         int housed = 0, whole = 0;
         for (int p = 0; p < now.choice.stones; p++) {
             whole += now.weight[p];
-            housed += now.choice.in[p] == NONE ? 0 : now.weight[p];
+            housed += now.choice.in[p] == NOWHERE ? 0 : now.weight[p];
         }
         return inLowestTerms(housed, whole, part);
     }
@@ -589,9 +595,12 @@ public final class StonesChoose {
         if (row.sort != sort) {
             return UNLIKE;
         }
+        if (n > 0 && from < 0) {
+            return OUTSIDE;
+        }
         int came = 0;
         for (int k = 0; k < n; k++) {
-            if (from < 0 || from > row.size - 3 * k - 3) {
+            if (from > row.size - 3 * k - 3) {
                 return OUTSIDE;
             }
             int i = from + 3 * k;
@@ -626,6 +635,11 @@ public final class StonesChoose {
 
     private static boolean isBuilding(int b) {
         return b >= 0 && b < BUILDINGS;
+    }
+
+    /** A building as calls answer it: NONE for none. */
+    private static int orNone(int b) {
+        return b == NOWHERE ? NONE : b;
     }
 
     private static boolean isSheet(int s) {
@@ -674,7 +688,7 @@ public final class StonesChoose {
                 thought.passYear();
             }
             int in = thought.choice.in[p];
-            if (b == NONE ? in != NONE : in == b) {
+            if (b == NONE ? in != NOWHERE : in == b) {
                 return years;
             }
         }
@@ -698,14 +712,14 @@ public final class StonesChoose {
 
     /** What is above (part 0) or below the line; NO: below it is 0. */
     private static long inLowestTerms(int above, int below, int part) {
-        int common = below, rest = above;
-        for (int i = 0; rest != 0 && i < 100; i++) {
-            int next = common % rest;
-            common = rest;
-            rest = next;
-        }
-        if (common == 0 || below == 0) {
+        if (below == 0) {
             return NO;
+        }
+        int common = 1;
+        for (int divisor = 2; divisor <= below; divisor++) {
+            if (above % divisor == 0 && below % divisor == 0) {
+                common = divisor;
+            }
         }
         return (part == 0 ? above : below) / common;
     }
@@ -713,13 +727,13 @@ public final class StonesChoose {
     /** All that an image keeps, and the kinds of stones: how they like, are wanted, go. */
     private static final class World {
         final Choice choice = new Choice();
-        final int[] place = new int[BUILDINGS];
-        final int[] vain = new int[BUILDINGS];
-        final int[] built = new int[BUILDINGS];
-        final int[] kind = new int[STONES];
-        final int[] more = new int[STONES];
-        final int[] at = new int[STONES];
-        final int[] weight = new int[STONES];
+        final int[] place = new int[BUILDINGS + 1];
+        final int[] vain = new int[BUILDINGS + 1];
+        final int[] built = new int[BUILDINGS + 1];
+        final int[] kind = new int[STONES + 1];
+        final int[] more = new int[STONES + 1];
+        final int[] at = new int[STONES + 1];
+        final int[] weight = new int[STONES + 1];
         private final int[] names = new int[NAMES];
         int yearNow;
         Text law;
@@ -754,7 +768,7 @@ public final class StonesChoose {
             more[p] = kindMore % MORES;
             at[p] = where;
             weight[p] = heavy;
-            choice.in[p] = NONE;
+            choice.in[p] = NOWHERE;
             choice.stones = p + 1;
             return p;
         }
@@ -762,7 +776,7 @@ public final class StonesChoose {
         /** A stone lies at a place, in no building. */
         void lay(int p, int where) {
             at[p] = where;
-            choice.in[p] = NONE;
+            choice.in[p] = NOWHERE;
         }
 
         /** A building comes to another place, with those in it. */
@@ -775,12 +789,11 @@ public final class StonesChoose {
             }
         }
 
-        /** What a part of the law says of a stone and a building (NONE: of no building). */
+        /** What a part of the law says of a stone and a building (NOWHERE: of none). */
         int says(int part, int p, int b) {
-            boolean ofNone = b == NONE;
-            names[FAR] = ofNone ? 0 : Math.abs(at[p] - place[b]);
-            names[VAIN] = ofNone ? 0 : vain[b];
-            names[BUILT] = ofNone ? 0 : built[b];
+            names[FAR] = b == NOWHERE ? 0 : Math.abs(at[p] - place[b]);
+            names[VAIN] = vain[b];
+            names[BUILT] = built[b];
             names[WEIGHT] = weight[p];
             names[YEAR] = yearNow;
             names[MORE] = more[p];
@@ -817,7 +830,7 @@ public final class StonesChoose {
                 return 1;
             }
             boolean isLintel = kind[p] == LINTEL || kind[p] == STEP;
-            int said = isLintel && yearNow < 10 ? 0 : says(GOES, p, NONE);
+            int said = isLintel && yearNow < 10 ? 0 : says(GOES, p, NOWHERE);
             if (kind[p] == STEP) {
                 return said + more[p];
             }
@@ -845,8 +858,8 @@ public final class StonesChoose {
         int passYear() {
             int bits = 0;
             for (int p = 0; p < choice.stones; p++) {
-                int b = choice.in[p] == NONE ? wish(p) : NONE;
-                if (b != NONE && goTo(p, b)) {
+                int b = choice.in[p] == NOWHERE ? wish(p) : NOWHERE;
+                if (b != NOWHERE && goTo(p, b)) {
                     bits |= 1 << p;
                 }
             }
@@ -871,7 +884,7 @@ public final class StonesChoose {
                 return false;
             }
             int cast = choice.comeIn(p, b);
-            if (cast != NONE) {
+            if (cast != NOBODY) {
                 at[cast] = place[b];
             }
             built[b] = Math.min(MOST, built[b] + 1);
@@ -881,12 +894,13 @@ public final class StonesChoose {
 
     /** Who is in what, and who would rather be where, by how all like and are wanted. */
     private static final class Choice {
-        final int[] room = new int[BUILDINGS];
-        final int[] in = new int[STONES];
-        final int[][] like = new int[STONES][BUILDINGS];
-        final int[][] want = new int[STONES][BUILDINGS];
+        final int[] room = new int[BUILDINGS + 1];
+        /** The building that a stone is in, or NOWHERE. */
+        final int[] in = new int[STONES + 1];
+        final int[][] like = new int[STONES + 1][BUILDINGS + 1];
+        final int[][] want = new int[STONES + 1][BUILDINGS + 1];
         /** Stone by stone the buildings that have sent it away, as bits. */
-        private final int[] sent = new int[STONES];
+        private final int[] sent = new int[STONES + 1];
         int stones;
 
         Choice() {
@@ -903,16 +917,12 @@ public final class StonesChoose {
 
         void emptyAll() {
             for (int p = 0; p < STONES; p++) {
-                in[p] = NONE;
+                in[p] = NOWHERE;
             }
         }
 
         int inNone() {
-            int many = 0;
-            for (int p = 0; p < stones; p++) {
-                many += in[p] == NONE ? 1 : 0;
-            }
-            return many;
+            return housed(NOWHERE);
         }
 
         int housed(int b) {
@@ -934,7 +944,7 @@ public final class StonesChoose {
         int digits() {
             int digits = 0;
             for (int p = 0; p < stones; p++) {
-                digits = 10 * digits + in[p] + 1;
+                digits = 10 * digits + (in[p] == NOWHERE ? 0 : in[p] + 1);
             }
             return digits;
         }
@@ -942,7 +952,7 @@ public final class StonesChoose {
         int liked() {
             int sum = 0;
             for (int p = 0; p < stones; p++) {
-                sum += in[p] == NONE ? 0 : like[p][in[p]];
+                sum += like[p][in[p]];
             }
             return sum;
         }
@@ -950,25 +960,20 @@ public final class StonesChoose {
         int wanted() {
             int sum = 0;
             for (int p = 0; p < stones; p++) {
-                sum += in[p] == NONE ? 0 : want[p][in[p]];
+                sum += want[p][in[p]];
             }
             return sum;
         }
 
-        /** Whether a stone would rather be in a building than in another one (NONE: than in none). */
+        /** Whether a stone would rather be in a building than in another one, or than NOWHERE, which it likes by 0. */
         boolean ratherBeIn(int p, int b, int other) {
-            if (like[p][b] <= 0) {
-                return false;
-            }
-            if (other == NONE || like[p][b] > like[p][other]) {
-                return true;
-            }
-            return like[p][b] == like[p][other] && b < other;
+            int it = like[p][b], that = like[p][other];
+            return it > 0 && (it > that || it == that && b < other);
         }
 
         /** The building that a stone would rather be in than in any other but some (bits), and in none. */
         int dearest(int p, int but) {
-            int dearest = NONE;
+            int dearest = NOWHERE;
             for (int b = 0; b < BUILDINGS; b++) {
                 if ((but >> b & 1) == 0 && ratherBeIn(p, b, dearest)) {
                     dearest = b;
@@ -981,11 +986,11 @@ public final class StonesChoose {
             return want[p][b] > want[other][b] || want[p][b] == want[other][b] && p < other;
         }
 
-        /** The one in a building than which it would rather have all others in it; NONE: nobody is in it. */
+        /** The one in a building than which it would rather have all others in it; NOBODY: nobody is in it. */
         private int last(int b) {
-            int last = NONE;
+            int last = NOBODY;
             for (int p = 0; p < stones; p++) {
-                if (in[p] == b && (last == NONE || ratherHave(b, last, p))) {
+                if (in[p] == b && (last == NOBODY || ratherHave(b, last, p))) {
                     last = p;
                 }
             }
@@ -1000,14 +1005,14 @@ public final class StonesChoose {
                 return true;
             }
             int last = last(b);
-            return last != NONE && room[b] > 0 && ratherHave(b, p, last);
+            return last != NOBODY && room[b] > 0 && ratherHave(b, p, last);
         }
 
-        /** A stone comes to be in a building: who is cast out for it; NONE: nobody. */
+        /** A stone comes to be in a building: who is cast out for it, or NOBODY. */
         int comeIn(int p, int b) {
-            int cast = housed(b) < room[b] ? NONE : last(b);
-            if (cast != NONE) {
-                in[cast] = NONE;
+            int cast = housed(b) < room[b] ? NOBODY : last(b);
+            if (cast != NOBODY) {
+                in[cast] = NOWHERE;
             }
             in[p] = b;
             return cast;
@@ -1023,8 +1028,8 @@ public final class StonesChoose {
             for (int i = 0; asked && i < 1000; i++) {
                 asked = false;
                 for (int p = 0; p < stones; p++) {
-                    int b = in[p] == NONE ? dearest(p, sent[p]) : NONE;
-                    if (b != NONE) {
+                    int b = in[p] == NOWHERE ? dearest(p, sent[p]) : NOWHERE;
+                    if (b != NOWHERE) {
                         asked = true;
                         ask(p, b);
                     }
@@ -1034,7 +1039,7 @@ public final class StonesChoose {
 
         private void ask(int p, int b) {
             int away = takes(p, b) ? comeIn(p, b) : p;
-            if (away != NONE) {
+            if (away != NOBODY) {
                 sent[away] |= 1 << b;
             }
         }
@@ -1042,7 +1047,7 @@ public final class StonesChoose {
         /** What is against peace, 10 times the stone and 9 or the building; -1: nothing. */
         int complaint() {
             for (int p = 0; p < stones; p++) {
-                if (in[p] != NONE && like[p][in[p]] <= 0) {
+                if (in[p] != NOWHERE && like[p][in[p]] <= 0) {
                     return 10 * p + 9;
                 }
                 for (int b = 0; b < BUILDINGS; b++) {
@@ -1066,11 +1071,10 @@ public final class StonesChoose {
         /** The next way, by digits, in which stones could be in buildings; false: there is none. */
         boolean nextWay() {
             for (int p = stones - 1; p >= 0; p--) {
-                if (in[p] < BUILDINGS - 1) {
-                    in[p]++;
+                in[p] = in[p] == NOWHERE ? 0 : in[p] + 1;
+                if (in[p] != NOWHERE) {
                     return true;
                 }
-                in[p] = NONE;
             }
             return false;
         }
@@ -1082,6 +1086,8 @@ public final class StonesChoose {
         static final int PLUS = 6, MINUS = 7, LESS = 8, EQUAL = 9, AND = 10, OR = 11;
         /** More than five open brackets, each with five signs that wait, can need. */
         private static final int DEPTH = 40;
+        /** Where the first value comes; what lies below it is blank, and keeps all indices in the row. */
+        private static final int BOTTOM = 2;
 
         final int number;
         private final int[] code;
@@ -1096,30 +1102,30 @@ public final class StonesChoose {
 
         /** What a part says, unbounded, by what the names stand for. */
         int value(int part, int[] names) {
-            int top = 0;
+            int top = BOTTOM - 1;
             for (int i = starts[part]; i < code.length; i++) {
                 int order = code[i] & 15, v = code[i] >> 4;
                 if (order == END) {
                     break;
                 }
                 if (order == NUMBER || order == NAME) {
-                    if (top >= DEPTH) {
+                    if (top >= DEPTH - 1) {
                         return 0;
                     }
-                    stack[top] = order == NUMBER ? v : names[v];
                     top++;
+                    stack[top] = order == NUMBER ? v : names[v];
                 } else if (order == NEGATE || order == NOT) {
-                    if (top < 1) {
+                    if (top < BOTTOM) {
                         return 0;
                     }
-                    int one = stack[top - 1];
-                    stack[top - 1] = order == NEGATE ? -one : one == 0 ? 1 : 0;
+                    int one = stack[top];
+                    stack[top] = order == NEGATE ? -one : one == 0 ? 1 : 0;
                 } else {
-                    if (top < 2) {
+                    if (top < BOTTOM + 1) {
                         return 0;
                     }
                     top--;
-                    int left = stack[top - 1], right = stack[top], result;
+                    int left = stack[top], right = stack[top + 1], result;
                     switch (order) {
                         case TIMES: result = left * right; break;
                         case PLUS: result = left + right; break;
@@ -1129,10 +1135,10 @@ public final class StonesChoose {
                         case AND: result = left != 0 && right != 0 ? 1 : 0; break;
                         default: result = left != 0 || right != 0 ? 1 : 0; break;
                     }
-                    stack[top - 1] = result;
+                    stack[top] = result;
                 }
             }
-            return top < 1 ? 0 : stack[top - 1];
+            return top < BOTTOM ? 0 : stack[top];
         }
     }
 
