@@ -113,6 +113,12 @@ public final class YearsTest {
         x.put(0, 0, 20);
         Due.row(x, 0, 0, 20);
         DUE.is("25 cast out it lies there, wherever it was thought to be", x.states(0, 1, 0, 0), 100);
+        StonesChoose y = new StonesChoose();
+        y.stone(0, 20, 5);
+        DUE.is("14 the first is in", y.year(), 1);
+        y.stone(0, 20, 50);
+        Due.row(y, 0, 0, 20);
+        DUE.is("25 the first, too, lies there", y.states(0, 0, 0, 0), 100);
     }
 
     private static void notTaken() {
